@@ -1094,7 +1094,8 @@ public final class AlmanacOffice {
         }
 
         private boolean readRetract() {
-            if (!readAnyNumber()) return false;
+            scanner.next();
+            if (scanner.kind != Scanner.NUMBER) return fail(NOT_ALLOWED);
             int page = scanner.number;
             if (!state.book.hasPage(page)) return fail(UNKNOWN);
             if (!state.canPayBackPage(page)) return fail(REFUSED);
@@ -1132,13 +1133,9 @@ public final class AlmanacOffice {
             return state.villages.numberOf(scanner.name()) != NONE || fail(UNKNOWN);
         }
 
-        private boolean readAnyNumber() {
-            scanner.next();
-            return scanner.kind == Scanner.NUMBER || fail(NOT_ALLOWED);
-        }
-
         private boolean readNumber(int least, int most) {
-            if (!readAnyNumber()) return false;
+            scanner.next();
+            if (scanner.kind != Scanner.NUMBER) return fail(NOT_ALLOWED);
             return isBetween(scanner.number, least, most) || fail(OUT_OF_RANGE);
         }
 

@@ -124,6 +124,10 @@ final class DaysTest {
             Check.due("daysUntilEmpty after " + days, x.daysUntilEmpty(), Math.max(0, 30 - days));
             Check.due("forecastCount after " + days, x.forecastCount() == 0, days >= 30);
         }
+        AlmanacOffice w = Check.loaded("almanac 0 1 0 0;village a 50 50;say a 2 sun;say a 4 rain;");
+        Check.due("trustAfter alone", w.trustAfter(0, 2), 55);
+        Check.due("trustAfter later", w.trustAfter(0, 4), 45);
+        Check.due("trustAfter earlier again", w.trustAfter(0, 1), 50);
         AlmanacOffice y = Check.loaded("almanac 0 1 0 0;village a 50 50;pass 5;");
         Check.due("daysUntilEmpty of an empty book", y.daysUntilEmpty(), 0);
         y.print(0, 9, 0);

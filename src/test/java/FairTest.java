@@ -5,6 +5,8 @@ final class FairTest {
         daysUntil();
         selling();
         order();
+        bestSellers();
+        numbersCount();
         people();
         Check.end();
     }
@@ -102,6 +104,28 @@ final class FairTest {
         // The forecast of day 5 had 6 copies and takes the other 4 of the 12; 8 are left for the last one.
         sale(x, "behind sold out ones", 0, 32, 8, 16);
         Check.due("bestSeller, still the first one", x.bestSeller(), 90);
+    }
+
+    private static void bestSellers() {
+        AlmanacOffice x = Check.loaded("almanac 0 1 0 0;village a 10 50;village b 80 50;fair f b 1 99 2;say a 9 sun;say b 8 sun;pass 1;");
+        Check.due("bestSeller, the second one", x.bestSeller(), 81);
+        x.print(1, 30, 0);
+        x.setPeople(1, 99);
+        x.setTrust(1, 100);
+        x.pass(1);
+        Check.due("bestSeller, still the second one", x.bestSeller(), 81);
+        x.pass(6);
+        Check.due("bestSeller, when it is gone", x.bestSeller(), 301);
+    }
+
+    /** Fair 1 with a period of 4 days is held on days 3 and 7. */
+    private static void numbersCount() {
+        AlmanacOffice x = Check.loaded("almanac 0 1 0 0;village a 90 50;village b 1 1;fair f b 12 1 1;fair g a 4 10 1;say a 9 sun;");
+        int[] sold = {0, 0, 0, 10, 10, 10, 10, 20, 20};
+        for (int day = 1; day < sold.length; day++) {
+            x.pass(1);
+            sale(x, "on day " + day, 0, 9, sold[day], sold[day]);
+        }
     }
 
     private static void people() {

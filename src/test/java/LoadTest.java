@@ -198,6 +198,8 @@ final class LoadTest {
         error(1, HEAD + "^\t");
         error(1, HEAD + "^\r\n");
         error(1, HEAD + "^\0");
+        error(1, "almanac 0 1 0 0^,");
+        error(1, "^blmanac 0 1 0 0;");
         error(1, HEAD + "^x");
         error(1, HEAD + "^7");
         error(1, HEAD + "village ^A 1 1;");

@@ -50,7 +50,8 @@ final class SkyTest {
         // 26 and 765 modulo 9 are 8 and 0.
         drawn(x, "after 3 days", 2, 1, 3);
         counts(x, "after 3 days", 3, 765, 0, 2, 1);
-        AlmanacOffice y = Check.loaded("almanac 1023 20 0 0;");
+        AlmanacOffice y = Check.loaded("almanac 1023 1 0 0;");
+        Check.dueDouble("chanceOf with a sum of 1", y.chanceOf(0), 1.0);
         y.pass(200);
         counts(y, "without villages", 200, 1023, 0, 0, 0);
         Check.dueDouble("chanceOf the only weather", y.chanceOf(0), 1.0);
@@ -99,6 +100,14 @@ final class SkyTest {
         x.pass(200);
         x.pass(15);
         odds(x, "after 20 years", 20, 0, 0);
+
+        AlmanacOffice r = Check.loaded("almanac 0 0 0 1;village a 1 1;pass 11;");
+        drawn(r, "of storms on day 11", 0, 0, 11);
+        r.pass(1);
+        drawn(r, "of storms on day 12", 0, 0, 0);
+        r.pass(3);
+        Check.load(r, "almanac 0 0 0 1;village a 1 1;");
+        drawn(r, "of a new state", 0, 0, 0);
 
         // Without villages all weathers are drawn equally often: the smallest one gains, the greatest one loses.
         odds(Check.loaded("almanac 0 0 0 5;pass 12;"), "of an empty year", 1, 0, 4);
