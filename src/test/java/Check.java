@@ -8,8 +8,14 @@ final class Check {
     }
 
     private static int wrong = 0;
+    private static String sentence = "";
 
     private Check() {
+    }
+
+    /** Tells the sentence of the document that the following answers rest on. */
+    static void about(String words) {
+        sentence = words;
     }
 
     static void due(String call, long got, long want) {
@@ -39,7 +45,7 @@ final class Check {
 
     static void report(String line) {
         wrong++;
-        System.out.println(line);
+        System.out.println(sentence.isEmpty() ? line : line + " [" + sentence + "]");
     }
 
     /** Ends the test: with exit code 1 if an answer was wrong. */
@@ -80,6 +86,38 @@ final class Check {
         } catch (IllegalArgumentException e) {
             report("the text '" + text + "' has error " + office.errorCode() + " at " + office.errorPosition());
         }
+    }
+
+    /** Loads a text that has an error; a caret stands before the token that has it. */
+    static void error(int code, String marked) {
+        error(code, marked.replace("^", ""), marked.indexOf('^'));
+    }
+
+    static void error(int code, String text, int position) {
+        AlmanacOffice x = new AlmanacOffice();
+        String before = stateOf(x);
+        feed(x, text);
+        dueThrow("load of '" + text + "'", IllegalArgumentException.class, () -> x.load());
+        due("errorCode of '" + text + "'", x.errorCode(), code);
+        due("errorPosition of '" + text + "'", x.errorPosition(), position);
+        dueText("state after '" + text + "'", stateOf(x), before);
+        dueThrow("input after '" + text + "'", IllegalArgumentException.class, () -> x.truncateInput(1));
+        dueThrow("undo after '" + text + "'", IllegalStateException.class, () -> x.undo());
+    }
+
+    /** Loads a text that has no error, and gives the office back. */
+    static AlmanacOffice right(String text, int villages) {
+        AlmanacOffice x = new AlmanacOffice();
+        feed(x, text);
+        try {
+            due("load of '" + text + "'", x.load(), villages);
+        } catch (IllegalArgumentException e) {
+            report("load of '" + text + "' threw, due is " + villages);
+        }
+        due("errorCode of '" + text + "'", x.errorCode(), 0);
+        due("errorPosition of '" + text + "'", x.errorPosition(), -1);
+        dueThrow("input after '" + text + "'", IllegalArgumentException.class, () -> x.truncateInput(1));
+        return x;
     }
 
     /** All of the state that the questions tell, as one text. */

@@ -19,38 +19,15 @@ final class LoadTest {
         Check.end();
     }
 
-    /** A caret stands before the token that has the error. */
-    private static void error(int code, String marked) {
-        AlmanacOffice x = new AlmanacOffice();
-        String before = Check.stateOf(x);
-        String text = marked.replace("^", "");
-        Check.feed(x, text);
-        Check.dueThrow("load of '" + text + "'", IllegalArgumentException.class, () -> x.load());
-        Check.due("errorCode of '" + text + "'", x.errorCode(), code);
-        Check.due("errorPosition of '" + text + "'", x.errorPosition(), marked.indexOf('^'));
-        Check.dueText("state after '" + text + "'", Check.stateOf(x), before);
-        Check.dueThrow("input after '" + text + "'", IllegalArgumentException.class, () -> x.truncateInput(1));
-        Check.dueThrow("undo after '" + text + "'", IllegalStateException.class, () -> x.undo());
-    }
-
-    private static void right(String text, int villages) {
-        AlmanacOffice x = new AlmanacOffice();
-        Check.feed(x, text);
-        Check.due("load of '" + text + "'", x.load(), villages);
-        Check.due("errorCode of '" + text + "'", x.errorCode(), 0);
-        Check.due("errorPosition of '" + text + "'", x.errorPosition(), -1);
-        Check.dueThrow("input after '" + text + "'", IllegalArgumentException.class, () -> x.truncateInput(1));
-    }
-
     private static void rightTexts() {
-        right(HEAD, 0);
-        right("\n almanac\n1023 20 20 20\n;\n ", 0);
-        right("almanac 0 0 0 1;pass0;pass 000200;", 0);
-        right("almanac0 0 1 00000000000000000000;village fair 1 1;", 1);
-        right(SIX_VILLAGES, 6);
-        right(SIX_FAIRS, 1);
-        right(HEAD + "village sun 99 100;village v 1 0;fair rain sun 12 99 20;fair g v 1 1 1;say sun 30 storm;say v 1 rain;", 2);
-        right(HEAD + "village a 1 1;pass 200;pass 200;say a 430 sun;say a 401 sun;retract 0;", 1);
+        Check.right(HEAD, 0);
+        Check.right("\n almanac\n1023 20 20 20\n;\n ", 0);
+        Check.right("almanac 0 0 0 1;pass0;pass 000200;", 0);
+        Check.right("almanac0 0 1 00000000000000000000;village fair 1 1;", 1);
+        Check.right(SIX_VILLAGES, 6);
+        Check.right(SIX_FAIRS, 1);
+        Check.right(HEAD + "village sun 99 100;village v 1 0;fair rain sun 12 99 20;fair g v 1 1 1;say sun 30 storm;say v 1 rain;", 2);
+        Check.right(HEAD + "village a 1 1;pass 200;pass 200;say a 430 sun;say a 401 sun;retract 0;", 1);
     }
 
     private static void freshState() {
@@ -79,135 +56,135 @@ final class LoadTest {
     }
 
     private static void head() {
-        error(1, "^");
-        error(1, "  \n ^");
-        error(1, "^;");
-        error(1, "^almanach 0 1 0 0;");
-        error(1, "^village a 1 1;");
-        error(1, " ^5");
-        error(1, "almanac^");
-        error(1, "almanac ^;");
-        error(1, "almanac 1 2 3 4^");
-        error(1, "almanac 1 2 3 4 \n ^");
-        error(1, "almanac 1 2 3 4 ^5;");
-        error(1, "almanac 1 2 3 4 ^almanac");
-        error(1, "almanac 1 2 ^-3 4;");
-        error(2, "almanac ^1024 1 1 1;");
-        error(2, "almanac 0 ^21 1 1;");
-        error(2, "almanac 0 1 ^21 1;");
-        error(2, "almanac 0 1 1 ^21;");
-        error(2, "almanac 0 0 0 ^21;");
-        error(2, "almanac 0 0 0 ^0;");
-        error(2, "almanac 0 0 0 ^00");
-        error(2, "almanac ^18446744073709551616 1 1 1;");
-        error(2, "almanac ^4294967296 1 1 1;");
-        error(1, HEAD + "^almanac 0 1 0 0;");
-        error(1, HEAD + "^;");
+        Check.error(1, "^");
+        Check.error(1, "  \n ^");
+        Check.error(1, "^;");
+        Check.error(1, "^almanach 0 1 0 0;");
+        Check.error(1, "^village a 1 1;");
+        Check.error(1, " ^5");
+        Check.error(1, "almanac^");
+        Check.error(1, "almanac ^;");
+        Check.error(1, "almanac 1 2 3 4^");
+        Check.error(1, "almanac 1 2 3 4 \n ^");
+        Check.error(1, "almanac 1 2 3 4 ^5;");
+        Check.error(1, "almanac 1 2 3 4 ^almanac");
+        Check.error(1, "almanac 1 2 ^-3 4;");
+        Check.error(2, "almanac ^1024 1 1 1;");
+        Check.error(2, "almanac 0 ^21 1 1;");
+        Check.error(2, "almanac 0 1 ^21 1;");
+        Check.error(2, "almanac 0 1 1 ^21;");
+        Check.error(2, "almanac 0 0 0 ^21;");
+        Check.error(2, "almanac 0 0 0 ^0;");
+        Check.error(2, "almanac 0 0 0 ^00");
+        Check.error(2, "almanac ^18446744073709551616 1 1 1;");
+        Check.error(2, "almanac ^4294967296 1 1 1;");
+        Check.error(1, HEAD + "^almanac 0 1 0 0;");
+        Check.error(1, HEAD + "^;");
     }
 
     private static void villages() {
-        error(1, HEAD + "village ^5 1 1;");
-        error(1, HEAD + "village ^");
-        error(1, HEAD + "village ^; 1 1;");
-        error(2, HEAD + "village ^abcde 1 1;");
-        error(2, HEAD + "village ^village 1 1;");
-        error(3, HEAD + "village abcd 1 1;village ^abcd 1 1;");
-        error(3, VILLAGES + "village ^f 1 1;");
-        error(2, HEAD + "village a ^0 1;");
-        error(2, HEAD + "village a ^100 1;");
-        error(1, HEAD + "village a ^b 1;");
-        error(2, HEAD + "village a 1 ^101;");
-        error(1, HEAD + "village a 1 ^;");
-        error(1, HEAD + "village a 1 1 ^1;");
-        error(1, HEAD + "village a 1 1^");
-        error(5, SIX_VILLAGES + "^village");
-        error(5, SIX_VILLAGES + "^village a 1 1;");
-        error(1, SIX_VILLAGES + "^villages");
-        error(1, "almanac 0 1 0 0;^Village a 1 1;");
+        Check.error(1, HEAD + "village ^5 1 1;");
+        Check.error(1, HEAD + "village ^");
+        Check.error(1, HEAD + "village ^; 1 1;");
+        Check.error(2, HEAD + "village ^abcde 1 1;");
+        Check.error(2, HEAD + "village ^village 1 1;");
+        Check.error(3, HEAD + "village abcd 1 1;village ^abcd 1 1;");
+        Check.error(3, VILLAGES + "village ^f 1 1;");
+        Check.error(2, HEAD + "village a ^0 1;");
+        Check.error(2, HEAD + "village a ^100 1;");
+        Check.error(1, HEAD + "village a ^b 1;");
+        Check.error(2, HEAD + "village a 1 ^101;");
+        Check.error(1, HEAD + "village a 1 ^;");
+        Check.error(1, HEAD + "village a 1 1 ^1;");
+        Check.error(1, HEAD + "village a 1 1^");
+        Check.error(5, SIX_VILLAGES + "^village");
+        Check.error(5, SIX_VILLAGES + "^village a 1 1;");
+        Check.error(1, SIX_VILLAGES + "^villages");
+        Check.error(1, "almanac 0 1 0 0;^Village a 1 1;");
     }
 
     private static void fairs() {
-        error(1, VILLAGES + "fair ^1 a 1 1 1;");
-        error(2, VILLAGES + "fair ^abcde a 1 1 1;");
-        error(3, VILLAGES + "fair ^bb a 1 1 1;");
-        error(3, VILLAGES + "fair ^f a 1 1 1;");
-        error(4, VILLAGES + "fair g ^c 1 1 1;");
-        error(4, VILLAGES + "fair g ^f 1 1 1;");
-        error(4, VILLAGES + "fair g ^g 1 1 1;");
-        error(4, VILLAGES + "fair g ^abcde 1 1 1;");
-        error(1, VILLAGES + "fair g ^0 1 1 1;");
-        error(2, VILLAGES + "fair g a ^0 1 1;");
-        error(2, VILLAGES + "fair g a ^13 1 1;");
-        error(2, VILLAGES + "fair g a 1 ^0 1;");
-        error(2, VILLAGES + "fair g a 1 ^100 1;");
-        error(2, VILLAGES + "fair g a 1 1 ^0;");
-        error(2, VILLAGES + "fair g a 1 1 ^21;");
-        error(1, VILLAGES + "fair g a 1 1 1 ^1;");
-        error(1, VILLAGES + "fair g a 1 1^");
-        error(5, SIX_FAIRS + "^fair g v 1 1 1;");
-        error(4, HEAD + "fair g ^g 1 1 1;");
+        Check.error(1, VILLAGES + "fair ^1 a 1 1 1;");
+        Check.error(2, VILLAGES + "fair ^abcde a 1 1 1;");
+        Check.error(3, VILLAGES + "fair ^bb a 1 1 1;");
+        Check.error(3, VILLAGES + "fair ^f a 1 1 1;");
+        Check.error(4, VILLAGES + "fair g ^c 1 1 1;");
+        Check.error(4, VILLAGES + "fair g ^f 1 1 1;");
+        Check.error(4, VILLAGES + "fair g ^g 1 1 1;");
+        Check.error(4, VILLAGES + "fair g ^abcde 1 1 1;");
+        Check.error(1, VILLAGES + "fair g ^0 1 1 1;");
+        Check.error(2, VILLAGES + "fair g a ^0 1 1;");
+        Check.error(2, VILLAGES + "fair g a ^13 1 1;");
+        Check.error(2, VILLAGES + "fair g a 1 ^0 1;");
+        Check.error(2, VILLAGES + "fair g a 1 ^100 1;");
+        Check.error(2, VILLAGES + "fair g a 1 1 ^0;");
+        Check.error(2, VILLAGES + "fair g a 1 1 ^21;");
+        Check.error(1, VILLAGES + "fair g a 1 1 1 ^1;");
+        Check.error(1, VILLAGES + "fair g a 1 1^");
+        Check.error(5, SIX_FAIRS + "^fair g v 1 1 1;");
+        Check.error(4, HEAD + "fair g ^g 1 1 1;");
     }
 
     private static void says() {
-        error(4, VILLAGES + "say ^c 1 sun;");
-        error(4, VILLAGES + "say ^f 1 sun;");
-        error(4, VILLAGES + "say ^aaaaa 1 sun;");
-        error(1, VILLAGES + "say ^1 1 sun;");
-        error(1, VILLAGES + "say a ^sun;");
-        error(2, VILLAGES + "say a ^10000 sun;");
-        error(1, VILLAGES + "say a 9999 ^snow;");
-        error(1, VILLAGES + "say a 1 ^0;");
-        error(1, VILLAGES + "say a 1 ^storms;");
-        error(1, VILLAGES + "say a 9999 sun ^sun;");
-        error(1, VILLAGES + "say a 9999 sun^");
-        error(6, VILLAGES + "say a 0 sun^;");
-        error(6, VILLAGES + "say a 31 sun^;");
-        error(6, VILLAGES + "say a 9999 sun ^;");
-        error(6, VILLAGES + "say a 7 sun;say a 7 rain^;");
-        error(6, VILLAGES + "pass 3;say a 3 sun^;");
+        Check.error(4, VILLAGES + "say ^c 1 sun;");
+        Check.error(4, VILLAGES + "say ^f 1 sun;");
+        Check.error(4, VILLAGES + "say ^aaaaa 1 sun;");
+        Check.error(1, VILLAGES + "say ^1 1 sun;");
+        Check.error(1, VILLAGES + "say a ^sun;");
+        Check.error(2, VILLAGES + "say a ^10000 sun;");
+        Check.error(1, VILLAGES + "say a 9999 ^snow;");
+        Check.error(1, VILLAGES + "say a 1 ^0;");
+        Check.error(1, VILLAGES + "say a 1 ^storms;");
+        Check.error(1, VILLAGES + "say a 9999 sun ^sun;");
+        Check.error(1, VILLAGES + "say a 9999 sun^");
+        Check.error(6, VILLAGES + "say a 0 sun^;");
+        Check.error(6, VILLAGES + "say a 31 sun^;");
+        Check.error(6, VILLAGES + "say a 9999 sun ^;");
+        Check.error(6, VILLAGES + "say a 7 sun;say a 7 rain^;");
+        Check.error(6, VILLAGES + "pass 3;say a 3 sun^;");
         StringBuilder full = new StringBuilder("almanac 0 1 0 0;village a 1 1;village b 1 1;");
         for (int day = 1; day <= 30; day++) full.append("say a ").append(day).append(" sun;");
-        error(6, full + "say b 1 sun^;");
+        Check.error(6, full + "say b 1 sun^;");
     }
 
     private static void retracts() {
-        error(4, VILLAGES + "retract ^0;");
-        error(4, VILLAGES + "say a 1 sun;retract ^1;");
-        error(4, VILLAGES + "say a 1 sun;retract ^99999999999999999999;");
-        error(4, VILLAGES + "say a 1 sun;retract ^4294967296;");
-        error(1, VILLAGES + "say a 1 sun;retract ^a;");
-        error(1, VILLAGES + "say a 1 sun;retract 0 ^0;");
-        error(1, VILLAGES + "say a 1 sun;retract 0^");
-        error(4, VILLAGES + "say a 1 sun;retract 0;retract ^0;");
+        Check.error(4, VILLAGES + "retract ^0;");
+        Check.error(4, VILLAGES + "say a 1 sun;retract ^1;");
+        Check.error(4, VILLAGES + "say a 1 sun;retract ^99999999999999999999;");
+        Check.error(4, VILLAGES + "say a 1 sun;retract ^4294967296;");
+        Check.error(1, VILLAGES + "say a 1 sun;retract ^a;");
+        Check.error(1, VILLAGES + "say a 1 sun;retract 0 ^0;");
+        Check.error(1, VILLAGES + "say a 1 sun;retract 0^");
+        Check.error(4, VILLAGES + "say a 1 sun;retract 0;retract ^0;");
         // A regretted storm leaves -10 coins, so that even a page without sales is refused.
-        error(6, "almanac 0 0 0 1;village a 1 1;say a 1 sun;say a 9 sun;pass 1;retract ^0;");
-        error(6, "almanac 0 0 0 1;village a 1 1;say a 1 sun;say a 9 sun;pass 1;retract ^0");
-        right("almanac 0 0 0 1;village a 1 1;say a 1 storm;say a 9 sun;pass 1;retract 0;", 1);
+        Check.error(6, "almanac 0 0 0 1;village a 1 1;say a 1 sun;say a 9 sun;pass 1;retract ^0;");
+        Check.error(6, "almanac 0 0 0 1;village a 1 1;say a 1 sun;say a 9 sun;pass 1;retract ^0");
+        Check.right("almanac 0 0 0 1;village a 1 1;say a 1 storm;say a 9 sun;pass 1;retract 0;", 1);
     }
 
     private static void passes() {
-        error(2, HEAD + "pass ^201;");
-        error(1, HEAD + "pass ^;");
-        error(1, HEAD + "pass ^-1;");
-        error(1, HEAD + "pass 1 ^2;");
-        error(1, HEAD + "pass 1^");
-        error(1, HEAD + "^passes 1;");
+        Check.error(2, HEAD + "pass ^201;");
+        Check.error(1, HEAD + "pass ^;");
+        Check.error(1, HEAD + "pass ^-1;");
+        Check.error(1, HEAD + "pass 1 ^2;");
+        Check.error(1, HEAD + "pass 1^");
+        Check.error(1, HEAD + "^passes 1;");
     }
 
     private static void tokens() {
-        error(1, HEAD + "^\t");
-        error(1, HEAD + "^\r\n");
-        error(1, HEAD + "^\0");
-        error(1, "almanac 0 1 0 0^,");
-        error(1, "^blmanac 0 1 0 0;");
-        error(1, HEAD + "^x");
-        error(1, HEAD + "^7");
-        error(1, HEAD + "village ^A 1 1;");
-        error(1, HEAD + "village a^A 1 1;");
-        error(1, HEAD + "village a 1^.5 1;");
-        error(1, HEAD + "village a 1^x 1;");
-        error(4, VILLAGES + "say a 1 sun;retract ^7x");
-        error(1, "^\u00e9");
-        error(1, "almanac 1^\u00e9");
+        Check.error(1, HEAD + "^\t");
+        Check.error(1, HEAD + "^\r\n");
+        Check.error(1, HEAD + "^\0");
+        Check.error(1, "almanac 0 1 0 0^,");
+        Check.error(1, "^blmanac 0 1 0 0;");
+        Check.error(1, HEAD + "^x");
+        Check.error(1, HEAD + "^7");
+        Check.error(1, HEAD + "village ^A 1 1;");
+        Check.error(1, HEAD + "village a^A 1 1;");
+        Check.error(1, HEAD + "village a 1^.5 1;");
+        Check.error(1, HEAD + "village a 1^x 1;");
+        Check.error(4, VILLAGES + "say a 1 sun;retract ^7x");
+        Check.error(1, "^\u00e9");
+        Check.error(1, "almanac 1^\u00e9");
     }
 }
