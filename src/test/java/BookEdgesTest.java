@@ -555,8 +555,9 @@ final class BookEdgesTest {
         Check.due("a refused writePage keeps the output", x.outputByte(22), 'r');
         Check.about("writePage: the day in decimal");
         for (int day : new int[] {1, 9, 10, 11, 99, 100, 101, 109, 110, 999, 1000, 1001, 9999, 10000, 10001, 99999, 100000}) {
-            AlmanacOffice y = Check.loaded(SUNNY + "village a 1 1;" + "pass200;".repeat(Math.min(70, (day - 1) / 200)));
-            while (y.day() < day - 1) y.pass(Math.min(200, day - 1 - y.day()));
+            int inText = Math.min(70, (day - 1) / 200);
+            AlmanacOffice y = Check.loaded(SUNNY + "village a 1 1;" + "pass200;".repeat(inText));
+            for (int left = day - 1 - 200 * inText; left > 0; left -= 200) y.pass(Math.min(200, left));
             y.print(0, day, 0);
             Check.dueText("page of day " + day, Check.pageText(y, 0), "a" + day + "s");
         }

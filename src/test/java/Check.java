@@ -145,6 +145,16 @@ final class Check {
         return all.toString();
     }
 
+    /** Some of the state, for offices that have many calls: there may be 512. */
+    static String briefOf(AlmanacOffice office) {
+        StringBuilder some = new StringBuilder();
+        some.append(office.day()).append(' ').append(office.seed()).append(' ').append(office.coins()).append(' ').append(office.forecastCount());
+        for (int village = 0; village < office.villageCount(); village++) {
+            some.append(" v").append(office.peopleOf(village)).append(',').append(office.trustOf(village));
+        }
+        return some.toString();
+    }
+
     static String pageText(AlmanacOffice office, int page) {
         int length = office.writePage(page);
         StringBuilder text = new StringBuilder();

@@ -178,13 +178,13 @@ final class StateEdgesTest {
         AlmanacOffice x = new AlmanacOffice();
         List<String> before = new ArrayList<>();
         for (int i = 0; i < 12; i++) {
-            before.add(Check.stateOf(x));
+            before.add(Check.briefOf(x));
             if (i % 3 == 1) Check.load(x, i == 4 ? FIRST : OTHER);
             else x.setTrust(1, 30 + i);
         }
         for (int i = 11; i >= 4; i--) {
             Check.due("undo of call " + i, x.undo(), i - 4);
-            Check.dueText("state before call " + i, Check.stateOf(x), before.get(i));
+            Check.dueText("state before call " + i, Check.briefOf(x), before.get(i));
         }
         Check.dueThrow("undo of a ninth call", IllegalStateException.class, () -> x.undo());
     }

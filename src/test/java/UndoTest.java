@@ -27,40 +27,44 @@ final class UndoTest {
         undone(x, "setPeople", first, 0);
         x.setOdds(1, 0);
         undone(x, "setOdds", first, 0);
-        x.pass(200);
-        undone(x, "pass", first, 0);
-        Check.load(x, "almanac 1 1 1 1;village x 3 3;village y 4 4;village z 5 5;");
-        undone(x, "load", first, 0);
-        x.save(1);
-        x.pass(50);
-        String later = Check.stateOf(x);
-        x.restore(1);
-        undone(x, "restore", later, 1);
-        undone(x, "pass before it", first, 0);
-        Check.dueThrow("undo of nothing", IllegalStateException.class, () -> x.undo());
-        Check.dueText("state after undo of nothing", Check.stateOf(x), first);
-        x.setTrust(0, x.trustOf(0));
-        Check.due("a call that changes nothing is remembered", x.undo(), 0);
+        AlmanacOffice y = new AlmanacOffice();
+        y.pass(200);
+        undone(y, "pass", first, 0);
+        Check.load(y, "almanac 1 1 1 1;village x 3 3;village y 4 4;village z 5 5;");
+        undone(y, "load", first, 0);
+        y.save(1);
+        y.pass(50);
+        String later = Check.stateOf(y);
+        y.restore(1);
+        undone(y, "restore", later, 1);
+        undone(y, "pass before it", first, 0);
+        Check.dueThrow("undo of nothing", IllegalStateException.class, () -> y.undo());
+        Check.dueText("state after undo of nothing", Check.stateOf(y), first);
+        y.setTrust(0, y.trustOf(0));
+        Check.due("a call that changes nothing is remembered", y.undo(), 0);
     }
 
     private static void latestEight() {
         AlmanacOffice x = new AlmanacOffice();
         String[] before = new String[20];
         for (int i = 0; i < 20; i++) {
-            before[i] = Check.stateOf(x);
+            before[i] = Check.briefOf(x);
             if (i % 5 == 4) Check.load(x, "almanac " + i + " 5 5 5;village a 9 9;village b 5 5;say a 9 sun;pass 2;");
             else x.pass(1 + i);
         }
-        for (int i = 19; i >= 12; i--) undone(x, "call " + i, before[i], i - 12);
+        for (int i = 19; i >= 12; i--) {
+            Check.due("undo of call " + i, x.undo(), i - 12);
+            Check.dueText("state after undo of call " + i, Check.briefOf(x), before[i]);
+        }
         Check.dueThrow("undo of a ninth call", IllegalStateException.class, () -> x.undo());
-        Check.dueText("state after it", Check.stateOf(x), before[12]);
+        Check.dueText("state after it", Check.briefOf(x), before[12]);
         x.pass(1);
         x.pass(2);
         Check.due("undo after undo", x.undo(), 1);
         x.setTrust(0, 77);
         Check.due("undo of a new call", x.undo(), 1);
         Check.due("undo of the older one", x.undo(), 0);
-        Check.dueText("state at last", Check.stateOf(x), before[12]);
+        Check.dueText("state at last", Check.briefOf(x), before[12]);
     }
 
     private static void questionsAreNotRemembered() {
